@@ -143,6 +143,10 @@ public final class ChangeTest {
         Check.due("lives at their bound", x.hurts(2, 0, 1), NONE);
         x.tower(0, 3, 6);
         Check.due("rest at its bound", x.hurts(0, 0, 3), NONE);
+        x.tower(0, 3, 5);
+        Check.due("rest one below its bound", x.hurts(0, 0, 3), 0);
+        x.rule(3, 99);
+        Check.due("coins one below their bound", x.hurts(2, 0, 0), 0);
     }
 
     private static void nothingChanges() {

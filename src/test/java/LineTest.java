@@ -174,8 +174,8 @@ public final class LineTest {
 
     private static void money() {
         TowersAndWaves x = new TowersAndWaves();
-        x.buy(0, 0, 0, 0);
-        x.buy(0, 1, 0, 1);
+        Check.due("buy(0, 0, 0, 0)", x.buy(0, 0, 0, 0), 1);
+        Check.due("buy(0, 1, 0, 1)", x.buy(0, 1, 0, 1), 1);
         // 10 are left and 15 asked: the 5 that would come back don't count yet
         Check.due("coins are asked for before any come back", x.play(2), 10);
         Check.due("the kind that stays", x.during(0, 3), 0);
@@ -192,7 +192,7 @@ public final class LineTest {
         x.rule(3, 39);
         Check.due("one coin short", x.play(2), 24);
         Check.due("no tower at place 1", x.during(0, 4), NONE);
-        x.buy(0, 0, 2, NONE);
+        Check.due("buy(0, 0, 2, NONE)", x.buy(0, 0, 2, NONE), 1);
         Check.due("the first buy is none", x.play(2), 14);
         Check.due("place 0", x.during(0, 3), NONE);
         Check.due("place 1", x.during(0, 4), 2);
@@ -238,6 +238,20 @@ public final class LineTest {
         Check.due("the tower in wave 1", x.during(1, 3), 2);
         Check.due("the tower in wave 2", x.during(2, 3), 0);
         Check.due("there is no wave 3", x.during(3, 0), NOT);
+        x.rule(2, 4);
+        x.buy(3, 0, 1, 0);
+        x.buy(3, 1, 0, 2);
+        // 62 - 10, then 5 come back for 25
+        Check.due("coins behind wave 3", x.play(2), 32);
+        Check.due("coins behind wave 3", x.during(3, 1), 32);
+        Check.due("place 0 in wave 3", x.during(3, 3), 2);
+        Check.due("place 1 in wave 3", x.during(3, 4), 0);
+        Check.due("lives behind wave 3", x.play(1), 5);
+        x.clear(0);
+        x.clear(1);
+        x.clear(2);
+        Check.due("idle()", x.idle(), 1);
+        Check.due("no buys in any wave", x.play(2), 25);
     }
 
     private static void losing() {
@@ -257,6 +271,9 @@ public final class LineTest {
         Check.due("ticks of wave 1", x.during(1, 2), 9);
         Check.due("wave 2 did not come", x.during(2, 0), NOT);
         Check.due("lost()", x.lost(), 1);
+        x.rule(4, 4);
+        // just as many as there are lives: the fourth one isn't waited for here either
+        play("lost to the last life", x, 1, 0, 20, 18, 0, 4, 0);
         x.rule(4, 5);
         play("lost by the fourth", x, 1, 0, 20, 9 + 17, 0, 5, 0);
         x.rule(4, 6);

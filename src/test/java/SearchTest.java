@@ -11,6 +11,9 @@ public final class SearchTest {
         noWavePassed();
         someWavesPassed();
         whatIsBest();
+        soughtAnew();
+        fewWinners();
+        lastWave();
         taking();
         losing();
         Check.end();
@@ -147,6 +150,76 @@ public final class SearchTest {
         Check.due("two towers", x.best(1), 3);
         Check.due("place 0", x.bought(0, 0), 4);
         Check.due("place 1", x.bought(0, 1), 5);
+        x.clear(0);
+        Check.due("nothing is wanted against an empty wave", x.bought(0, 0), NONE);
+        Check.due("all lives are left", x.best(1), 5);
+    }
+
+    /** What is best is told anew after each change of a number. */
+    private static void soughtAnew() {
+        TowersAndWaves x = new TowersAndWaves();
+        x.rule(1, 1);
+        x.rule(3, 10);
+        x.rule(4, 1);
+        x.creep(0, 0, 6);
+        x.send(0, 0, 0);
+        // kind 0 alone can be paid: alone, before or behind another one that can't, or twice
+        best("kind 0 wins", x, 1, 1, 2, 13, 0, 1, 6, 6, 0, 0);
+        x.tower(0, 2, 2);
+        best("its power is too little", x, 0, 1, 10, 13, 0, NONE, 0, 0, 0, 0);
+        Check.due("nothing is bought where none wins", x.bought(0, 0), NONE);
+        x.tower(0, 2, 3);
+        Check.due("bought again", x.bought(0, 0), 0);
+        x.creep(0, 0, 7);
+        Check.due("the creep lives on", x.best(6), 0);
+        x.creep(0, 0, 6);
+        x.spot(0, 1, 2);
+        Check.due("the tower is too deep", x.best(6), 0);
+        x.spot(0, 1, 1);
+        x.send(0, 0, 0);
+        Check.due("two creeps", x.best(6), 0);
+        x.clear(0);
+        Check.due("no creep", x.best(6), 13);
+    }
+
+    /** It takes two towers of kind 0 at two places: of 43 lines two win, the places in their order and the other way round. */
+    private static void fewWinners() {
+        TowersAndWaves x = new TowersAndWaves();
+        x.rule(4, 1);
+        x.tower(1, 0, 50);
+        x.tower(2, 0, 50);
+        x.creep(0, 0, 12);
+        x.send(0, 0, 0);
+        best("two winners", x, 1, 1, 2, 43, 0, 1, 2, 2, 0, 0);
+        Check.due("place 0 first", x.bought(0, 0), 0);
+        Check.due("then place 1", x.bought(0, 1), 1);
+        x.rule(1, 4);
+        x.rule(5, 50);
+        x.spot(1, 1, 3);
+        x.spot(3, 1, 3);
+        // places 0 and 2 alone reach the path, and place 2 first comes behind the bound
+        best("one winner", x, 1, 1, 2, 50, 1, 1, 1, 1, 0, 0);
+        Check.due("then place 2", x.bought(0, 1), 2);
+    }
+
+    /** Three empty waves and one creep in the last: the first winner buys as late as it can. */
+    private static void lastWave() {
+        TowersAndWaves x = new TowersAndWaves();
+        x.rule(1, 1);
+        x.rule(2, 4);
+        x.rule(3, 10);
+        x.rule(4, 1);
+        x.creep(0, 0, 6);
+        x.send(3, 0, 0);
+        best("the last wave", x, 4, 1, 2, 300, 1, 1);
+        for (int wave = 0; wave < 3; wave++) {
+            Check.due("nothing in wave " + wave, x.bought(wave, 0), NONE);
+        }
+        Check.due("kind 0 in wave 3", x.bought(3, 0), 0);
+        Check.due("take()", x.take(), 1);
+        Check.due("it is won", x.play(0), 4);
+        Check.due("COINS behind wave 2", x.during(2, 1), 10);
+        Check.due("COINS behind wave 3", x.during(3, 1), 2);
     }
 
     private static void taking() {
