@@ -7,10 +7,10 @@ import java.util.TreeSet;
 final class Model {
     static final int NONE = -1, UNKNOWN = -1001, OUTSIDE = -1002, NOT = -1003, FULL = -1004;
 
-    private static final int[][] RULE_BOUNDS = {{4, 16}, {1, 4}, {1, 4}, {0, 100}, {1, 20}, {50, 500}};
-    private static final int[][] SPOT_BOUNDS = {{0, 15}, {0, 3}};
-    private static final int[][] TOWER_BOUNDS = {{1, 50}, {0, 8}, {1, 30}, {1, 6}};
-    private static final int[][] CREEP_BOUNDS = {{1, 200}, {1, 5}, {0, 20}, {0, 10}};
+    static final int[][] RULE_BOUNDS = {{4, 16}, {1, 4}, {1, 4}, {0, 100}, {1, 20}, {50, 500}};
+    static final int[][] SPOT_BOUNDS = {{0, 15}, {0, 3}};
+    static final int[][] TOWER_BOUNDS = {{1, 50}, {0, 8}, {1, 30}, {1, 6}};
+    static final int[][] CREEP_BOUNDS = {{1, 200}, {1, 5}, {0, 20}, {0, 10}};
 
     private final int[] rules = {8, 2, 1, 20, 5, 300};
     private final int[][] spots = {{2, 1}, {5, 1}, {3, 1}, {6, 1}};

@@ -6,6 +6,8 @@ import java.util.TreeMap;
 public final class ModelTest {
     private static final int RUNS = 400;
     private static final int CALLS = 120;
+    /** With those that set the game up no more than the 512 that an object is used for. */
+    private static final int CALLS_OF_A_LONG_RUN = 490;
     private static final int[] FAR = {Integer.MIN_VALUE, -1001, -2, -1, 4, 9, 10, 16, 1 << 30, Integer.MAX_VALUE};
     private static final String[] NAMES = {"rule", "spot", "tower", "creep", "send", "clear", "buy", "idle", "play",
         "during", "best", "bought", "take", "lost", "least", "hurts"};
@@ -40,8 +42,9 @@ public final class ModelTest {
     private void run(int run) {
         setUp();
         boolean same = true;
-        for (int i = 0; i < CALLS && same; i++) {
-            same = call();
+        int most = run % 40 == 0 ? CALLS_OF_A_LONG_RUN : CALLS;
+        for (int i = 0; i < most && same; i++) {
+            same = run % 4 == 1 && random.nextInt(4) == 0 ? callAtABound() : call();
         }
         Check.that("run " + run + " answers as the model does: " + calls, same);
     }
@@ -91,6 +94,22 @@ public final class ModelTest {
             case 21: return same(14, upTo(2), upTo(2), upTo(3));
             default: return same(15, upTo(2), upTo(2), upTo(3));
         }
+    }
+
+    /** A number becomes one of its bounds, or one more or one less than that. */
+    private boolean callAtABound() {
+        int what = random.nextInt(4);
+        switch (random.nextInt(4)) {
+            case 0: return atABound(0, Model.RULE_BOUNDS, random.nextInt(6));
+            case 1: return atABound(1, Model.SPOT_BOUNDS, what % 2);
+            case 2: return atABound(2, Model.TOWER_BOUNDS, what);
+            default: return atABound(3, Model.CREEP_BOUNDS, what);
+        }
+    }
+
+    private boolean atABound(int method, int[][] bounds, int what) {
+        int v = bounds[what][random.nextInt(2)] + random.nextInt(3) - 1;
+        return method == 0 ? same(0, what, v) : same(method, random.nextInt(method == 1 ? 4 : 3), what, v);
     }
 
     private boolean same(int method, int... a) {
