@@ -62,11 +62,13 @@ public final class BoundsTest {
             int w = what;
             bounds(rules[w], v -> x.rule(w, v), ruleBounds[w][0], ruleBounds[w][1], ruleBounds[w][2]);
         }
+        // on an object of 8 cells and 2 places: neither bounds what a spot may be
+        TowersAndWaves y = new TowersAndWaves();
         int[] spots = {2, 5, 3, 6};
         for (int place = 0; place < 4; place++) {
             int k = place;
-            bounds("SPOT " + k, v -> x.spot(k, 0, v), 0, 15, spots[k]);
-            bounds("DEPTH " + k, v -> x.spot(k, 1, v), 0, 3, 1);
+            bounds("SPOT " + k, v -> y.spot(k, 0, v), 0, 15, spots[k]);
+            bounds("DEPTH " + k, v -> y.spot(k, 1, v), 0, 3, 1);
         }
         ofKinds("TOWER", new String[] {"COST", "RANGE", "POWER", "REST"}, TowersAndWaves::tower,
             new int[][] {{1, 50}, {0, 8}, {1, 30}, {1, 6}}, new int[][] {{10, 1, 3, 1}, {15, 2, 4, 2}, {25, 3, 10, 3}});

@@ -342,6 +342,10 @@ public final class ChangeEdgesTest {
         Check.due("HEALTH: 1 LIFE in place of 2", x.hurts(CREEP, 0, 0), 1);
         Check.due("COST: likewise", x.hurts(TOWER, 0, 0), 1);
         Check.due("WAVES are as many", x.best(0), 1);
+        // the first winner, of none, has 1 life: it is the best one, with 2, that counts
+        Check.due("POWER: 2 LIVES either way", x.hurts(TOWER, 0, 2), 0);
+        Check.due("PRIZE: 2 LIVES either way", x.hurts(CREEP, 0, 2), 0);
+        Check.due("COINS: 2 LIVES either way", x.hurts(RULE, 0, 0), 0);
         x.creep(0, 0, 31);
         Check.due("1 LIFE either way", x.hurts(CREEP, 0, 0), 0);
         x.rule(2, 2);

@@ -11,6 +11,7 @@ public final class PlayEdgesTest {
         sameKindAgain();
         buyOfNone();
         noBuys();
+        wavesBeyondAreKept();
         prizesPayLater();
         towersStay();
         waveWithoutCreeps();
@@ -193,6 +194,22 @@ public final class PlayEdgesTest {
             }
         }
         Check.due("idle() again", x.idle(), 1);
+    }
+
+    /** "BUY b (0, 1) of a WAVE": also of one that is none of the WAVES yet; it waits for it. */
+    private static void wavesBeyondAreKept() {
+        TowersAndWaves x = market(50, 1, 2, 4);
+        for (int wave = 0; wave < 4; wave++) {
+            Check.due("buy(" + wave + ", 1, 3, 2)", x.buy(wave, 1, wave, 2), 1);
+        }
+        for (int w = 1; w <= 4; w++) {
+            x.rule(2, w);
+            Check.due("COINS behind " + w + " WAVES", x.play(2), 50 - 4 * w);
+        }
+        x.rule(2, 1);
+        Check.due("buy(3, 1, 3, NONE)", x.buy(3, 1, 3, NONE), 1);
+        x.rule(2, 4);
+        Check.due("COINS without the last", x.play(2), 50 - 12);
     }
 
     /** "COINS and PRIZE at once": they pay in the next wave, and a prize may be 0. */
