@@ -32,6 +32,7 @@ public final class PlayEdgesTest {
         lostInThatWave();
         withAllWavesItIsWon();
         didNotComeToIt();
+        nothingIsLeftOver();
         Check.end();
     }
 
@@ -598,5 +599,35 @@ public final class PlayEdgesTest {
         Check.due("WAVE 3 is none of the WAVES", x.during(3, 1), NOT);
         x.rule(2, 2);
         Check.due("WAVE 2 is none of the WAVES", x.during(2, 1), NOT);
+    }
+
+    /** "each step the same again": creeps that were on the path when a play was lost are none of the next play's. */
+    private static void nothingIsLeftOver() {
+        TowersAndWaves x = gate(10);
+        x.rule(4, 1);
+        x.rule(2, 2);
+        x.creep(2, 0, 200);
+        for (int i = 0; i < 8; i++) {
+            x.send(0, 2, i == 0 ? 0 : 1);
+        }
+        for (int again = 0; again < 3; again++) {
+            // the first is through at 8, when the last one, come at 7, is about to leave cell 0: a hit in each tick
+            play("LOST with seven on the PATH", x, 0, 0, 0, 9, 0, 1, 9);
+            Check.due("lost()", x.lost(), 0);
+        }
+        x.clear(0);
+        x.rule(4, 5);
+        play("none is sent", x, 2, 5, 0, 0, 0, 0, 0);
+        x.creep(0, 1, 5);
+        x.send(0, 0, 0);
+        play("one is sent", x, 2, 5, 2, 1, 1, 0, 1);
+        x.creep(0, 0, 200);
+        // asked first: what is left over would be gone behind the first play
+        Check.due("TICKS of one that goes through", x.play(3), 41);
+        play("one is sent that goes through", x, 2, 4, 0, 41, 0, 1, 6);
+        x.idle();
+        play("nothing is bought", x, 2, 4, 1, 41, 0, 1, 0);
+        x.send(1, 0, 3);
+        play("one more in WAVE 1", x, 2, 3, 1, 41 + 44, 0, 2, 0);
     }
 }
