@@ -49,7 +49,6 @@ public final class TowersAndWaves {
     private final Play played;
     private final Search told;
     private final Search trial;
-    private boolean toldIsCurrent;
 
     public TowersAndWaves() {
         game = new Game();
@@ -59,7 +58,6 @@ public final class TowersAndWaves {
         played = new Play(game, battle);
         told = new Search(game, battle);
         trial = new Search(game, battle);
-        toldIsCurrent = false;
     }
 
     public int rule(int what, int v) {
@@ -91,7 +89,7 @@ public final class TowersAndWaves {
         if (ticks < 0 || ticks > MOST_GAP) {
             return OUTSIDE;
         }
-        toldIsCurrent = false;
+        told.forget();
         return game.waves.append(wave, kind, ticks);
     }
 
@@ -99,7 +97,7 @@ public final class TowersAndWaves {
         if (!isWave(wave)) {
             return UNKNOWN;
         }
-        toldIsCurrent = false;
+        told.forget();
         return game.waves.empty(wave);
     }
 
@@ -159,7 +157,7 @@ public final class TowersAndWaves {
         if (what < 0 || what > 9) {
             return OUTSIDE;
         }
-        seekCurrent();
+        told.seekAll();
         switch (what) {
             case 0: return told.passed;
             case 1: return told.lives;
@@ -179,12 +177,12 @@ public final class TowersAndWaves {
         if (!isBuy(b)) {
             return OUTSIDE;
         }
-        seekCurrent();
+        told.seekAll();
         return told.top.at(wave, b);
     }
 
     public int take() {
-        seekCurrent();
+        told.seekAll();
         line.become(told.top, WAVES);
         return 1;
     }
@@ -206,8 +204,7 @@ public final class TowersAndWaves {
         int answer = NONE;
         for (int k = 0; k <= MOST_CHANGE && answer == NONE && table.allows(column, before + k); k++) {
             table.swap(row, column, before + k);
-            trial.run(true);
-            if (trial.winners > 0) {
+            if (trial.findsWinner()) {
                 answer = k;
             }
         }
@@ -227,9 +224,10 @@ public final class TowersAndWaves {
         if (!table.allows(column, before + 1)) {
             return NONE;
         }
-        seekCurrent();
+        told.seekAll();
         table.swap(row, column, before + 1);
-        trial.run(false);
+        trial.forget();
+        trial.seekAll();
         table.swap(row, column, before);
         boolean fewerWaves = trial.passed < told.passed;
         boolean fewerLives = trial.passed == told.passed && trial.lives < told.lives;
@@ -239,16 +237,9 @@ public final class TowersAndWaves {
     private int changeNumber(Table table, int row, int column, int v) {
         int before = table.swap(row, column, v);
         if (before != OUTSIDE) {
-            toldIsCurrent = false;
+            told.forget();
         }
         return before;
-    }
-
-    private void seekCurrent() {
-        if (!toldIsCurrent) {
-            told.run(false);
-            toldIsCurrent = true;
-        }
     }
 
     /** 0 if least and hurts may look at that number. Coins and lives have no kind, so any kind will do there. */
@@ -688,6 +679,7 @@ public final class TowersAndWaves {
         private final Camps camps;
         private final Line trail = new Line();
         private final int[] outcomes = new int[WAVES * TOWER_SETS];
+        private boolean isCurrent = false;
         private boolean untilWon;
         private int waves;
         private int options;
@@ -707,9 +699,32 @@ public final class TowersAndWaves {
             this.camps = new Camps(game);
         }
 
-        /** Whole or to the bound; with toFirstWinner only as far as it takes to know that there is one. */
-        void run(boolean toFirstWinner) {
-            untilWon = toFirstWinner;
+        /** The game is another one now. */
+        void forget() {
+            isCurrent = false;
+        }
+
+        /** Whole or to the bound; what was found is kept till it is forgotten. */
+        void seekAll() {
+            if (isCurrent) {
+                return;
+            }
+            begin();
+            untilWon = false;
+            seekWave(0);
+            isCurrent = true;
+        }
+
+        /** Only as far as it takes to know. */
+        boolean findsWinner() {
+            begin();
+            untilWon = true;
+            seekWave(0);
+            isCurrent = false;
+            return winners > 0;
+        }
+
+        private void begin() {
             waves = game.rules.get(0, WAVE_COUNT);
             options = Math.min(BUYS_IN_ORDER.length, KINDS * game.rules.get(0, PLACE_COUNT));
             bound = game.rules.get(0, BOUND);
@@ -727,7 +742,6 @@ public final class TowersAndWaves {
             looks = 0;
             winners = 0;
             spent = false;
-            seekWave(0);
         }
 
         private boolean isOver() {
