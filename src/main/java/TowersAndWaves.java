@@ -706,25 +706,22 @@ public final class TowersAndWaves {
 
         /** Whole or to the bound; what was found is kept till it is forgotten. */
         void seekAll() {
-            if (isCurrent) {
-                return;
+            if (!isCurrent) {
+                begin(false);
+                seekWave(0);
             }
-            begin();
-            untilWon = false;
-            seekWave(0);
-            isCurrent = true;
         }
 
-        /** Only as far as it takes to know. */
+        /** Seeks only as far as it takes to know, so that nothing else of it may be told. */
         boolean findsWinner() {
-            begin();
-            untilWon = true;
+            begin(true);
             seekWave(0);
-            isCurrent = false;
             return winners > 0;
         }
 
-        private void begin() {
+        private void begin(boolean toFirstWinner) {
+            untilWon = toFirstWinner;
+            isCurrent = !toFirstWinner;
             waves = game.rules.get(0, WAVE_COUNT);
             options = Math.min(BUYS_IN_ORDER.length, KINDS * game.rules.get(0, PLACE_COUNT));
             bound = game.rules.get(0, BOUND);
